@@ -25,7 +25,7 @@ public final class StayWhereFell {
     private final Field field = new Field();
     private final Place ahead = new Place(new Place(new Place(null)));
     private final Place now = new Place(ahead);
-    private final Place aim = new Place(null);
+    private final Place kept = new Place(null);
     private final Past past = new Past();
     private final Shelf slots = new Shelf(SLOTS);
     private long chance = 0;
@@ -214,14 +214,11 @@ public final class StayWhereFell {
         if (side == NONE || !has(now.men(1 - side), other)) {
             return STATE;
         }
-        int theirs = field.coming(now.sign(other), other, now.dead);
-        return (field.threatened(now.sign(cell), cell, now.dead) & theirs) != 0 ? 1 : 0;
+        return canComeAt(1 << cell, 1 << other) ? 1 : 0;
     }
 
     public int shut() {
-        boolean white = (threatenedBy(now.white) & comingOf(now.black)) != 0;
-        boolean black = (threatenedBy(now.black) & comingOf(now.white)) != 0;
-        return white || black ? 0 : 1;
+        return canComeAt(now.white, now.black) || canComeAt(now.black, now.white) ? 0 : 1;
     }
 
     // ---- ways, plays
@@ -236,9 +233,9 @@ public final class StayWhereFell {
         if (!slots.holds(slot)) {
             return STATE;
         }
-        slots.get(slot, aim);
+        slots.get(slot, kept);
         // Each PLY changes who is ON, so that by the other parity no row can end so.
-        return (now.on + n) % 2 == aim.on ? rowsTo(field, now, aim, n) : 0;
+        return (now.on + n) % 2 == kept.on ? rowsTo(field, now, kept, n) : 0;
     }
 
     public long seed(long v) {
@@ -358,26 +355,19 @@ public final class StayWhereFell {
         return parts;
     }
 
-    /** CELLS to which any of these men can come. */
-    private int comingOf(int men) {
-        int cells = 0;
+    /** Whether any of these men CAN COME AT any of those; both are told by their CELLS. */
+    private boolean canComeAt(int these, int those) {
+        int threatened = 0;
+        int coming = 0;
         for (int cell = 0; cell < field.cells; cell++) {
-            if (has(men, cell)) {
-                cells |= field.coming(now.sign(cell), cell, now.dead);
+            if (has(these, cell)) {
+                threatened |= field.threatened(now.sign(cell), cell, now.dead);
+            }
+            if (has(those, cell)) {
+                coming |= field.coming(now.sign(cell), cell, now.dead);
             }
         }
-        return cells;
-    }
-
-    /** CELLS at which any of these men would AIM from where it can come. */
-    private int threatenedBy(int men) {
-        int cells = 0;
-        for (int cell = 0; cell < field.cells; cell++) {
-            if (has(men, cell)) {
-                cells |= field.threatened(now.sign(cell), cell, now.dead);
-            }
-        }
-        return cells;
+        return (threatened & coming) != 0;
     }
 
     /** Whether a PLY is a KEY of who is ON at a place. */
@@ -415,12 +405,12 @@ public final class StayWhereFell {
     }
 
     /** In how many rows of n PLIES a place comes to be as another. */
-    private static int rowsTo(Field field, Place place, Place aimed, int n) {
-        if (place.differing(aimed) > CHANGED_MOST * n) {
+    private static int rowsTo(Field field, Place place, Place wanted, int n) {
+        if (place.differing(wanted) > CHANGED_MOST * n) {
             return 0;
         }
         if (n < 1) {
-            return place.isAs(aimed) ? 1 : 0;
+            return place.isAs(wanted) ? 1 : 0;
         }
         Place next = place.under;
         if (next == null) {
@@ -430,7 +420,7 @@ public final class StayWhereFell {
         int all = place.list(field);
         for (int i = 0; i < all; i++) {
             next.follow(place, place.ply(i), field.last);
-            rows += rowsTo(field, next, aimed, n - 1);
+            rows += rowsTo(field, next, wanted, n - 1);
         }
         return rows;
     }
@@ -615,9 +605,9 @@ public final class StayWhereFell {
             int come = 1 << cell;
             int done = 0;
             for (int i = 0; i < CELLS_MOST && come != done; i++) {
-                int at = lowest(come & ~done);
-                done |= 1 << at;
-                come |= going(sign, at, aimed(sign, at, dead)) & ~dead;
+                int here = lowest(come & ~done);
+                done |= 1 << here;
+                come |= going(sign, here, aimed(sign, here, dead)) & ~dead;
             }
             return come;
         }
@@ -626,9 +616,9 @@ public final class StayWhereFell {
         int threatened(int sign, int cell, int dead) {
             int come = coming(sign, cell, dead);
             int threatened = 0;
-            for (int at = 0; at < cells; at++) {
-                if (has(come, at)) {
-                    threatened |= aimed(sign, at, dead);
+            for (int here = 0; here < cells; here++) {
+                if (has(come, here)) {
+                    threatened |= aimed(sign, here, dead);
                 }
             }
             return threatened;
@@ -639,9 +629,9 @@ public final class StayWhereFell {
             int hang = 1 << cell;
             int done = 0;
             for (int i = 0; i < CELLS_MOST && hang != done; i++) {
-                int at = lowest(hang & ~done);
-                done |= 1 << at;
-                hang |= at(around, at) & open;
+                int here = lowest(hang & ~done);
+                done |= 1 << here;
+                hang |= at(around, here) & open;
             }
             return hang;
         }
@@ -821,7 +811,7 @@ public final class StayWhereFell {
         /** Whether who is ON can make the last K of the other side FALL now. */
         boolean canFellLast(Field field) {
             int theirs = kings & men(1 - on);
-            if (lost != NONE || Integer.bitCount(theirs) != 1) {
+            if (Integer.bitCount(theirs) != 1) {
                 return false;
             }
             int mine = men(on);

@@ -120,6 +120,7 @@ final class BoardTest {
         CHECK.lies("5: ", game, "G212bKk");
         CHECK.due("5: the text stays", game.count(0), 7);
         game.seed(99);
+        CHECK.due("5: kept", game.keep(0), 2);
         CHECK.due("5: kept", game.keep(1), 2);
         CHECK.due("5: a ply", game.move(1, 0), 'K');
         CHECK.due("5: lost", game.count(9), 0);
@@ -135,6 +136,8 @@ final class BoardTest {
         CHECK.due("5: the row is empty", game.undo(), STATE);
         CHECK.due("5: nobody has lost", game.count(9), NONE);
         CHECK.due("5: what was kept is gone", game.again(1), STATE);
+        CHECK.due("5: what was kept is gone", game.again(0), STATE);
+        CHECK.due("5: what was kept is gone", game.ways(0, 1), STATE);
         CHECK.due("5: what was kept is gone", game.ways(1, 1), STATE);
         CHECK.due("5: the seed stays", game.seed(0), 99);
         CHECK.due("5: again from the same text", game.board(), 16);

@@ -49,7 +49,8 @@ final class FaceTest {
         Constructor<?>[] made = StayWhereFell.class.getDeclaredConstructors();
         check.due("constructors", made.length, 1);
         check.due("the constructor's arguments", made[0].getParameterCount(), 0);
-        check.due("the class is public and final", StayWhereFell.class.getModifiers(), Modifier.PUBLIC | Modifier.FINAL);
+        int modifiers = StayWhereFell.class.getModifiers();
+        check.due("the class is public and final", modifiers, Modifier.PUBLIC | Modifier.FINAL);
         check.due("UNKNOWN", StayWhereFell.UNKNOWN, -1);
         check.due("OUTSIDE", StayWhereFell.OUTSIDE, -2);
         check.due("STATE", StayWhereFell.STATE, -3);

@@ -74,8 +74,8 @@ final class ModelTest {
     private String someBoard() {
         int wide = some(1, 4);
         int high = some(1, 4);
-        String[] mixes = {".........KkRrBbNnPp##", "....KkRrBbNnPp", "........KRkr##", "......KkPpPp##", "......##KkBbNn", "...........KkQ",
-            "........KKkkRNrn", "KkRrBbNnPp"};
+        String[] mixes = {".........KkRrBbNnPp##", "....KkRrBbNnPp", "........KRkr##", "......KkPpPp##",
+            "......##KkBbNn", "...........KkQ", "........KKkkRNrn", "KkRrBbNnPp"};
         String mix = mixes[chance.nextInt(mixes.length)];
         StringBuilder text = new StringBuilder("G").append(wide).append(high);
         text.append(chance.nextInt(3) == 0 ? 0 : some(0, 9)).append(chance.nextBoolean() ? 'w' : 'b');
@@ -156,7 +156,8 @@ final class ModelTest {
             }
             case 15: {
                 int m = chance.nextInt(8) == 0 ? some(-1, 43) : some(1, 40);
-                return same("play(" + m + ")", game.play(m), model.play(m)) && same("seed(5)", game.seed(5), model.seed(5));
+                return same("play(" + m + ")", game.play(m), model.play(m))
+                    && same("seed(5)", game.seed(5), model.seed(5));
             }
             case 16: return same("keep(" + slot + ")", game.keep(slot), model.keep(slot));
             case 17: return same("again(" + slot + ")", game.again(slot), model.again(slot));
@@ -164,7 +165,8 @@ final class ModelTest {
             case 19: {
                 int n = some(-1, 9);
                 long v = chance.nextLong();
-                return chance.nextInt(4) > 0 || same("write(" + n + ", " + v + ")", game.write(n, v), model.write(n, v));
+                return chance.nextInt(4) > 0
+                    || same("write(" + n + ", " + v + ")", game.write(n, v), model.write(n, v));
             }
             default: return true;
         }

@@ -109,12 +109,25 @@ final class PliesTest {
         CHECK.lies("11: it falls there", game, "G330b.##N..k..");
         CHECK.due("11: a row of three", game.count(8), 3);
 
-        StayWhereFell short1 = Check.lie("G311wKp.");
-        CHECK.due("11: LAST 1", short1.move(0, 1), 'p');
-        CHECK.lies("11: it lies for one ply", short1, "G311bK#.");
-        short1.pass();
-        CHECK.lies("11: and is gone", short1, "G311wK..");
-        CHECK.due("11: one can stand there", short1.move(0, 1), '.');
+        StayWhereFell brief = Check.lie("G311wKp.");
+        CHECK.due("11: LAST 1", brief.move(0, 1), 'p');
+        CHECK.lies("11: it lies for one ply", brief, "G311bK#.");
+        brief.pass();
+        CHECK.lies("11: and is gone", brief, "G311wK..");
+        CHECK.due("11: one can stand there", brief.move(0, 1), '.');
+        brief.pass();
+        CHECK.lies("11: and stays there", brief, "G311w.K.");
+
+        StayWhereFell first = Check.lie("G311bRk.");
+        CHECK.due("11: on CELL 0", first.move(1, 0), 'R');
+        first.pass();
+        CHECK.lies("11: gone from CELL 0", first, "G311b.k.");
+
+        StayWhereFell last = Check.lie("G444w.............rR.");
+        CHECK.due("11: beside the last CELL", last.move(14, 13), 'r');
+        CHECK.due("11: and a pass", last.pass(), 0);
+        CHECK.due("11: not past the DEAD", last.move(14, 12), STATE);
+        CHECK.due("11: the other way", last.move(14, 15), '.');
     }
 
     private static void moveRefused() {

@@ -58,6 +58,17 @@ final class SlotsTest {
         CHECK.lies("24: the other does", ever, "G410bR#.R");
         ways("it lies so now; R can go and come back, but not by three", ever, 0, 0, 0, 0);
 
+        // k goes while p is gone behind it: a ply that changes three cells.
+        StayWhereFell three = Check.lie("G411wRp.k");
+        three.move(0, 1);
+        three.move(3, 2);
+        CHECK.lies("24: k comes as p is gone", three, "G411wR.k.");
+        three.keep(0);
+        three.undo();
+        ways("k comes as p is gone", three, 0, 1, 0, 0);
+        three.undo();
+        ways("R takes, and k comes", three, 0, 0, 1, 0);
+
         // Taken now or two plies later, it lies longer then.
         StayWhereFell some = Check.lie("G414wRpP.");
         some.move(0, 1);
