@@ -329,7 +329,8 @@ public final class StayWhereFell {
         int keys = 0;
         for (int i = 0; i < all; i++) {
             int ply = now.ply(i);
-            if (isKey(field, now, ply, n)) {
+            ahead.follow(now, ply, field.last);
+            if (isForced(field, ahead, now.on, n - 1)) {
                 now.setPly(keys, ply);
                 keys++;
             }
@@ -368,16 +369,6 @@ public final class StayWhereFell {
             }
         }
         return (threatened & coming) != 0;
-    }
-
-    /** Whether a PLY is a KEY of who is ON at a place. */
-    private static boolean isKey(Field field, Place place, int ply, int n) {
-        Place next = place.under;
-        if (next == null) {
-            return false;
-        }
-        next.follow(place, ply, field.last);
-        return isForced(field, next, place.on, n - 1);
     }
 
     /** Whether a side can have the last K of the other FALL within n PLIES, whoever is ON. */
