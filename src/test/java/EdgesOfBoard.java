@@ -607,6 +607,25 @@ final class EdgesOfBoard extends Edges {
         due(game.count(7), 0);
     }
 
+    /** Who is on when p is gone goes where it lay, and is taken there by the other one. */
+    static void promise07_whereOneIsGoneAnotherLiesAllItsTime() {
+        for (int last = 1; last <= 9; last++) {
+            StayWhereFell game = Check.lie("G32" + last + "wRp##r#");
+            go(game, 1);
+            for (int i = 0; i < last; i++) {
+                go(game, NONE);
+            }
+            due(game.gone(1), STATE);
+            boolean white = game.count(4) == 0;
+            go(game, white ? 1 : 401, white ? 401 : 1);
+            for (int left = last; left > 0; left--) {
+                due(game.gone(1), left);
+                go(game, NONE);
+            }
+            due(game.gone(1), STATE);
+        }
+    }
+
     static void promise07_onTheLastCellToo() {
         StayWhereFell game = Check.lie("G449w..............Rr");
         due(game.move(14, 15), 'r');

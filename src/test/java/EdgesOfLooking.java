@@ -280,6 +280,14 @@ final class EdgesOfLooking extends Edges {
         odds("G310wkRk", 1, 1);
     }
 
+    static void promise18_anotherManThatFallsIsNone() {
+        for (char other : "rbnp".toCharArray()) {
+            odds("G310wR" + other + ".", 0, 1);
+            odds("G330w." + other + ".kR....", 1, 4);
+            odds("G410bK." + Character.toUpperCase(other) + "r", 0, 1);
+        }
+    }
+
     static void promise18_aKOfItsOwnIsNone() {
         odds("G330w.K.kR....", 2, 7);
         odds("G310wKR.", 0, 1);

@@ -163,6 +163,27 @@ final class EdgesOfPlays extends Edges {
         ways(game, 0, 1, 0, 1);
     }
 
+    static void promise24_oneMayBeGoneByThePlyByWhichAnotherGoes() {
+        StayWhereFell game = Check.lie("G421wRp..k...");
+        go(game, 1, 405);
+        lies(game, "G421wR....k..");
+        game.keep(0);
+        game.undo();
+        lies(game, "G421bR#..k...");
+        ways(game, 0, 1, 0, 0);
+        game.undo();
+        ways(game, 0, 0, 1, 0);
+    }
+
+    static void promise24_oneMayBeGoneByThePlyByWhichAnotherFalls() {
+        StayWhereFell game = Check.lie("G421wRp..k..r");
+        go(game, 1, 400);
+        lies(game, "G421w#...k..r");
+        game.keep(1);
+        game.undo();
+        ways(game, 1, 1, 0, 0);
+    }
+
     static void promise24_aSideMayHaveLostThen() {
         StayWhereFell game = Check.lie("G310wRk.");
         go(game, 1);

@@ -455,6 +455,20 @@ final class EdgesOfPlies extends Edges {
         due(two.move(2, 1), '.');
     }
 
+    static void promise11_whoGoesWhereOneIsGoneStaysThere() {
+        for (int last = 1; last <= 3; last += 2) {
+            StayWhereFell game = Check.lie("G31" + last + "wRp#");
+            go(game, 1);
+            for (int i = 0; i < last; i++) {
+                go(game, NONE);
+            }
+            go(game, 1, NONE);
+            lies(game, "G31" + last + "w.R#");
+            go(game, 100, NONE, 1, NONE);
+            lies(game, "G31" + last + "w.R#");
+        }
+    }
+
     static void promise11_aManGoesWhereOneFellOnlyThePlyAfter() {
         // By LAST 1 the DEAD one lies there yet when the very next ply is made.
         StayWhereFell game = Check.lie("G311wRpk");
